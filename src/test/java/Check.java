@@ -32,8 +32,15 @@ final class Check {
         try {
             return Integer.toString(call.answer());
         } catch (RuntimeException thrown) {
-            return "throws." + thrown.getClass().getSimpleName();
+            return "throws." + thrown.getClass().getSimpleName() + thrower(thrown);
         }
+    }
+
+    /** Tells the library's or the machine's own exceptions from those thrown by throw. */
+    private static String thrower(RuntimeException thrown) {
+        StackTraceElement[] trace = thrown.getStackTrace();
+        String by = trace.length == 0 ? "the machine" : trace[0].getClassName();
+        return by.startsWith("CoinbookSorter") || by.startsWith("Model") ? "" : " by " + by;
     }
 
     static void close(String name) {

@@ -10,7 +10,9 @@ public final class RepetitionTests {
         periodNeedsTwoThirds();
         periodWithSlack();
         linesOfOneDay();
+        questionsStandAlone();
         nextDue();
+        allSixtyLines();
         unknownLines();
         Check.close("RepetitionTests");
     }
@@ -146,6 +148,31 @@ public final class RepetitionTests {
         x.setSlack(1);
         Check.equal("25 gaps of 0, slack 1", x.period(0), CoinbookSorter.NONE);
         expectPeriod("0 among 30", 28, 30, 0, 30, 60, 90);
+    }
+
+    private static void questionsStandAlone() {
+        // The fourth day of the longer kind would complete the shorter one's period.
+        CoinbookSorter x = onDays(0, 100, 200, 310, 408);
+        Typing.line(x, "gas", 50, -1);
+        Typing.line(x, "gas", 150, -1);
+        Typing.line(x, "gas", 210, -1);
+        Check.equal("25 the longer kind", x.period(0), 98);
+        Check.equal("25 no days of it in the shorter", x.period(5), CoinbookSorter.NONE);
+        Check.equal("24 nor lines", x.alike(5), 3);
+        Check.equal("26 the longer kind again", x.nextDue(0), 506);
+    }
+
+    private static void allSixtyLines() {
+        CoinbookSorter x = new CoinbookSorter();
+        Typing.text(x, "rent");
+        for (int i = 59; i >= 0; i--) {
+            x.addLine(i * 10, 1);
+        }
+        Check.equal("24 sixty", x.alike(30), 60);
+        Check.equal("25 sixty", x.period(30), 8);
+        Check.equal("26 sixty", x.nextDue(30), 598);
+        Check.raises("9 a line too many", IllegalStateException.class, () -> x.addLine(1, 1));
+        Check.equal("26 sixty still", x.nextDue(30), 598);
     }
 
     private static void nextDue() {
