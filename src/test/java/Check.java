@@ -6,8 +6,18 @@ final class Check {
 
     private static int passed = 0;
     private static int failed = 0;
+    private static String about = "";
 
     private Check() {
+    }
+
+    /** Names what the next checks are about; a failure tells it. */
+    static void about(String sentence) {
+        about = sentence.isEmpty() ? "" : "[" + sentence + "] ";
+    }
+
+    static int count() {
+        return passed + failed;
     }
 
     static void that(String what, boolean holds) {
@@ -15,7 +25,7 @@ final class Check {
             passed++;
         } else {
             failed++;
-            System.out.println("FAILED " + what);
+            System.out.println("FAILED " + about + what);
         }
     }
 

@@ -1,9 +1,14 @@
+import java.util.HashMap;
+import java.util.Map;
+
 /** Long runs of calls, each answer set against the model's; every run is the same every time. */
 public final class ModelTests {
     private static final int RUNS = 1500;
     private static final int CALLS = 512;
     private static final String[] WORDS = {"a", "b", "c", "d", "ab", "ba", "abc", "aa"};
     private static final int[] DAYS = {0, 7, 14, 21, 30, 60, 91, 121, 152, 9999};
+
+    private static final Map<String, Integer> atLimit = new HashMap<>();
 
     private final CoinbookSorter program = new CoinbookSorter();
     private final Model model = new Model();
@@ -25,6 +30,10 @@ public final class ModelTests {
             Check.that("run " + run, !test.wrong);
             wrongRuns += test.wrong ? 1 : 0;
         }
+        for (String call : new String[] {"type", "addStops", "addRule", "addLine", "60 lines"}) {
+            Check.that("the runs come to a limit of " + call,
+                    atLimit.getOrDefault(call, 0) >= 20);
+        }
         Check.close("ModelTests");
     }
 
@@ -32,13 +41,22 @@ public final class ModelTests {
         while (calls < CALLS && !wrong) {
             step();
         }
+        if (model.lines() == 60) {
+            atLimit.merge("60 lines", 1, Integer::sum);
+        }
     }
 
     private void step() {
         int kind = below(20);
-        if (kind < 7) {
+        if (filling() && kind < 6) {
+            typeWords(below(3) == 0 ? 10 + below(10) : 0);
+            changeStopsOrRules();
+        } else if (kind < 7) {
             typeWords(1 + below(run % 4 + 1));
-            addLine();
+            // Some runs use a text again and again, so that they come to 60 lines.
+            for (int left = run % 3 == 0 ? 1 + below(7) : 1; left > 0; left--) {
+                addLine();
+            }
         } else if (kind < 9) {
             typeWords(below(3));
             changeStopsOrRules();
@@ -59,7 +77,7 @@ public final class ModelTests {
     private void typeWords(int count) {
         compare("clearText", program::clearText, model::clearText);
         for (int i = 0; i < count; i++) {
-            String word = WORDS[below(WORDS.length)];
+            String word = filling() ? anyWord() : WORDS[below(WORDS.length)];
             for (int k = 0; k < word.length(); k++) {
                 type(word.charAt(k));
             }
@@ -67,6 +85,16 @@ public final class ModelTests {
                 type(' ');
             }
         }
+    }
+
+    private String anyWord() {
+        String letter = "" + (char) ('a' + below(26));
+        return below(3) == 0 ? letter + letter : letter;
+    }
+
+    /** Runs that come to 30 stop words and to 12 rules. */
+    private boolean filling() {
+        return run % 5 == 0;
     }
 
     private void typeOdd() {
@@ -86,7 +114,9 @@ public final class ModelTests {
     }
 
     private void changeStopsOrRules() {
-        switch (below(5)) {
+        // In a run that fills, few are removed.
+        boolean adds = filling() && below(4) > 0;
+        switch (adds ? 3 * below(2) : below(5)) {
             case 0:
                 compare("addStops", program::addStops, model::addStops);
                 break;
@@ -144,6 +174,9 @@ public final class ModelTests {
         calls++;
         String got = Check.outcome(asked);
         String want = Check.outcome(due);
+        if (want.equals("throws.IllegalStateException")) {
+            atLimit.merge(call.substring(0, (call + " ").indexOf(' ')), 1, Integer::sum);
+        }
         if (!got.equals(want)) {
             wrong = true;
             System.out.println("run " + run + ", call " + calls + ": " + call + " answered "

@@ -15,6 +15,14 @@ final class Typing {
         return sorter.addLine(day, amount);
     }
 
+    /** Lines of one description, one for each day, with one amount. */
+    static void lines(CoinbookSorter sorter, String description, int amount, int... days) {
+        text(sorter, description);
+        for (int day : days) {
+            sorter.addLine(day, amount);
+        }
+    }
+
     static int taughtLine(CoinbookSorter sorter, String description, int category) {
         int number = line(sorter, description, 0, 1);
         sorter.correct(number, category);
